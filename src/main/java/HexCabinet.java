@@ -3,7 +3,6 @@ import java.util.Arrays;
 /** A cabinet for hexagon chess: positions told as a game, and what can be said of them. */
 public final class HexCabinet {
     private static final int CELLS = 91;
-    private static final int COLUMNS = 11;
     private static final int RADIUS = 5;
 
     // The board lies in a square of 17 by 17 places, with three places of border all
@@ -33,12 +32,12 @@ public final class HexCabinet {
     private static final int[] STEPS = {1, 17, 16, -1, -17, -16, 18, 33, 15, -18, -33, -15};
     private static final int[] JUMPS = {19, 35, 50, 49, 31, 14, -19, -35, -50, -49, -31, -14};
 
-    // The taking steps of a white pawn; those of a black one have both signs turned.
-    private static final int TAKE_RIGHT = 17;
-    private static final int TAKE_LEFT = -16;
+    // The steps by which a white pawn takes; those of a black one have both signs turned.
+    private static final int[] TAKING_STEPS = {17, -16};
 
     private static final int WHITE = 0;
     private static final int BLACK = 1;
+    private static final int NOBODY = -1;
 
     private static final int KING = 1;
     private static final int QUEEN = 2;
@@ -92,7 +91,7 @@ public final class HexCabinet {
     // ---- the language
 
     public int feed(int a, int b, int c, int d, int e) throws IllegalStateException {
-        if (tape.size() > TAPE_SIZE - FEED_SIZE) {
+        if (tape.size > TAPE_SIZE - FEED_SIZE) {
             throw new IllegalStateException("the tape is full");
         }
         tape.append(a);
@@ -100,11 +99,11 @@ public final class HexCabinet {
         tape.append(c);
         tape.append(d);
         tape.append(e);
-        return tape.size();
+        return tape.size;
     }
 
     public int trim(int n) throws IllegalArgumentException {
-        if (n < 0 || n > tape.size()) {
+        if (n < 0 || n > tape.size) {
             throw new IllegalArgumentException("not a length within the tape");
         }
         tape.shorten(n);
@@ -117,7 +116,7 @@ public final class HexCabinet {
         if (error == 0) {
             draft.clear();
             error = teacher.carryOut(reader, draft);
-            position = error == 0 ? NOWHERE : teacher.errorPosition();
+            position = error == 0 ? NOWHERE : teacher.errorPosition;
         }
         if (error == 0) {
             Game old = game;
@@ -271,7 +270,7 @@ public final class HexCabinet {
             case 7: return game.pointsOf(WHITE);
             case 8: return game.pointsOf(BLACK);
             case 9: return game.passingCell();
-            default: return tape.size();
+            default: return tape.size;
         }
     }
 
@@ -303,12 +302,16 @@ public final class HexCabinet {
         return column < RADIUS ? -column : -RADIUS;
     }
 
+    private static int columnSize(int column) {
+        return column < RADIUS ? column + 6 : 16 - column;
+    }
+
+    /** The cell with this name, -1 for none. */
     private static int cellNamed(int column, int number) {
         if (column < 0 || column >= FIRST_OF_COLUMN.length) {
             return NOWHERE;
         }
-        int size = COLUMNS - Math.abs(column - RADIUS);
-        return number < 1 || number > size ? NOWHERE : FIRST_OF_COLUMN[column] + number - 1;
+        return number < 1 || number > columnSize(column) ? NOWHERE : FIRST_OF_COLUMN[column] + number - 1;
     }
 
     private static int nameOf(int cell) {
@@ -336,7 +339,7 @@ public final class HexCabinet {
 
     private static int sideOf(int value) {
         if (value <= NONE) {
-            return NOWHERE;
+            return NOBODY;
         }
         return value < OF_BLACK ? WHITE : BLACK;
     }
@@ -360,9 +363,32 @@ public final class HexCabinet {
 
     /** The black first cells are the white ones with both signs turned. */
     private static boolean isFirstPlace(int place, int side) {
-        int x = xOf(place) * forward(side);
-        int y = yOf(place) * forward(side);
+        int sign = side == WHITE ? 1 : -1;
+        int x = (place / SPAN - MIDDLE) * sign;
+        int y = (place % SPAN - MIDDLE) * sign;
         return x >= -4 && x <= 4 && y == (x > 0 ? -1 - x : -1);
+    }
+
+    private static int[] stepsOf(int kind) {
+        return kind == KNIGHT ? JUMPS : STEPS;
+    }
+
+    private static int firstStepOf(int kind) {
+        return kind == BISHOP ? STRAIGHT : 0;
+    }
+
+    /** The index behind that of the last step. */
+    private static int lastStepOf(int kind) {
+        return kind == ROOK ? STRAIGHT : STEPS.length;
+    }
+
+    /** Whether a piece goes by the steps of this index, one of them or any number. */
+    private static boolean goesBy(int kind, int index, boolean once) {
+        return kind == QUEEN || kind == (index < STRAIGHT ? ROOK : BISHOP) || kind == KING && once;
+    }
+
+    private static int reachOf(int kind) {
+        return kind == KING || kind == KNIGHT ? 1 : SPAN;
     }
 
     /** The pieces on their places, and what they attack. */
@@ -371,7 +397,7 @@ public final class HexCabinet {
         private int whiteKing = NOWHERE;
         private int blackKing = NOWHERE;
 
-        Board() {
+        private Board() {
             clear();
         }
 
@@ -402,10 +428,10 @@ public final class HexCabinet {
             if (place == blackKing) {
                 blackKing = NOWHERE;
             }
-            if (value == valueOf(WHITE, KING)) {
+            if (value == KING) {
                 whiteKing = place;
             }
-            if (value == valueOf(BLACK, KING)) {
+            if (value == KING + OF_BLACK) {
                 blackKing = place;
             }
         }
@@ -426,19 +452,13 @@ public final class HexCabinet {
             return next;
         }
 
-        /** Whether a piece of this side stands there that goes any number of the steps of this index. */
-        private boolean slides(int place, int index, int side) {
-            int value = on(place);
-            return value == valueOf(side, QUEEN) || value == valueOf(side, index < STRAIGHT ? ROOK : BISHOP);
-        }
-
         /** How many pieces of a side attack a place. */
         private int attackers(int place, int side) {
             int number = 0;
             for (int i = 0; i < STEPS.length; i++) {
                 int first = firstTaken(place, STEPS[i]);
-                boolean king = first == place + STEPS[i] && on(first) == valueOf(side, KING);
-                if (king || slides(first, i, side)) {
+                int value = on(first);
+                if (sideOf(value) == side && goesBy(kindOf(value), i, first == place + STEPS[i])) {
                     number++;
                 }
             }
@@ -449,11 +469,10 @@ public final class HexCabinet {
                 }
             }
             int pawn = valueOf(side, PAWN);
-            if (on(place - TAKE_RIGHT * forward(side)) == pawn) {
-                number++;
-            }
-            if (on(place - TAKE_LEFT * forward(side)) == pawn) {
-                number++;
+            for (int i = 0; i < TAKING_STEPS.length; i++) {
+                if (on(place - TAKING_STEPS[i] * forward(side)) == pawn) {
+                    number++;
+                }
             }
             return number;
         }
@@ -503,9 +522,9 @@ public final class HexCabinet {
         }
 
         private void setBoth(int kind, int column, int number) {
-            int size = COLUMNS - Math.abs(column - RADIUS);
+            int mirrored = columnSize(column) + 1 - number;
             set(placeOf(cellNamed(column, number)), valueOf(WHITE, kind));
-            set(placeOf(cellNamed(column, size + 1 - number)), valueOf(BLACK, kind));
+            set(placeOf(cellNamed(column, mirrored)), valueOf(BLACK, kind));
         }
     }
 
@@ -578,7 +597,7 @@ public final class HexCabinet {
         }
 
         private boolean isPlayable() {
-            return hasKing(WHITE) && hasKing(BLACK) && !isAttacked(1 - turn);
+            return hasKing(WHITE) && hasKing(BLACK) && board.attackers(board.kingOf(1 - turn), turn) == 0;
         }
 
         /** Whether the king of a side is attacked. */
@@ -665,7 +684,7 @@ public final class HexCabinet {
             }
         }
 
-        /** How many legal moves there are in a playable position, quiet moves left aside; it counts no further than enough. */
+        /** Counts the legal moves of a playable position, no further than enough; quiet moves are left aside. */
         private int countMoves(int enough) {
             lookAtKing();
             int number = 0;
@@ -734,13 +753,11 @@ public final class HexCabinet {
                     keepTarget(beyond);
                 }
             }
-            offerToPawn(from + TAKE_RIGHT * forward(turn));
-            offerToPawn(from + TAKE_LEFT * forward(turn));
-        }
-
-        private void offerToPawn(int to) {
-            if (to == passing || sideOf(board.on(to)) == 1 - turn) {
-                keepTarget(to);
+            for (int i = 0; i < TAKING_STEPS.length; i++) {
+                int to = from + TAKING_STEPS[i] * forward(turn);
+                if (to == passing || sideOf(board.on(to)) == 1 - turn) {
+                    keepTarget(to);
+                }
             }
         }
 
@@ -754,12 +771,13 @@ public final class HexCabinet {
         /** Finds whether the king of the side on turn is attacked, and which pieces alone shield it. */
         private void lookAtKing() {
             int king = board.kingOf(turn);
-            checked = isAttacked(turn);
+            checked = board.attackers(king, 1 - turn) > 0;
             pinnedCount = 0;
             for (int i = 0; i < STEPS.length; i++) {
                 int shield = board.firstTaken(king, STEPS[i]);
-                if (sideOf(board.on(shield)) == turn && pinnedCount < pinned.length
-                        && board.slides(board.firstTaken(shield, STEPS[i]), i, 1 - turn)) {
+                int behind = board.on(board.firstTaken(shield, STEPS[i]));
+                if (sideOf(board.on(shield)) == turn && sideOf(behind) == 1 - turn
+                        && goesBy(kindOf(behind), i, false) && pinnedCount < pinned.length) {
                     pinned[pinnedCount] = shield;
                     pinnedCount++;
                 }
@@ -781,7 +799,7 @@ public final class HexCabinet {
                 return true;
             }
             long step = play(from, to, QUEEN);
-            boolean safe = !isAttacked(1 - turn);
+            boolean safe = board.attackers(board.kingOf(1 - turn), turn) == 0;
             undo(step);
             return safe;
         }
@@ -791,12 +809,13 @@ public final class HexCabinet {
         /** Plays a move, and returns all that undo needs, in one number. */
         private long play(int from, int to, int as) {
             int went = board.on(from);
-            int struck = struckPlace(went, to);
-            int taken = board.on(struck);
-            long step = from | to << 9 | went << 18 | taken << 22;
-            step |= (long) quiet << 32 | (long) (passing + 1) << 40;
             boolean pawn = kindOf(went) == PAWN;
             boolean last = pawn && board.on(to + forward(turn)) == BORDER;
+            // What is taken in passing stands one step behind the cell on which it is taken.
+            int struck = pawn && to == passing ? to - forward(turn) : to;
+            int taken = board.on(struck);
+            long step = from | to << 9 | struck << 18;
+            step |= (long) (went | taken << 4 | quiet << 8) << 27 | (long) (passing + 1) << 43;
             board.set(struck, NONE);
             board.set(from, NONE);
             board.set(to, last ? valueOf(turn, as) : went);
@@ -807,24 +826,17 @@ public final class HexCabinet {
         }
 
         private void undo(long step) {
-            int from = (int) (step & 511);
             int to = (int) (step >> 9 & 511);
-            int went = (int) (step >> 18 & 15);
-            turn = 1 - turn;
-            quiet = (int) (step >> 32 & 255);
-            passing = (int) (step >> 40 & 511) - 1;
             board.set(to, NONE);
-            board.set(struckPlace(went, to), valueTaken(step));
-            board.set(from, went);
+            board.set((int) (step >> 18 & 511), valueTaken(step));
+            board.set((int) (step & 511), (int) (step >> 27 & 15));
+            quiet = (int) (step >> 35 & 255);
+            passing = (int) (step >> 43 & 511) - 1;
+            turn = 1 - turn;
         }
 
         private static int valueTaken(long step) {
-            return (int) (step >> 22 & 15);
-        }
-
-        /** Where the piece stands that is taken on a place: in passing it is behind it. */
-        private int struckPlace(int went, int to) {
-            return kindOf(went) == PAWN && to == passing ? to - forward(turn) : to;
+            return (int) (step >> 31 & 15);
         }
 
         private boolean isFull() {
@@ -930,23 +942,6 @@ public final class HexCabinet {
         }
     }
 
-    private static int[] stepsOf(int kind) {
-        return kind == KNIGHT ? JUMPS : STEPS;
-    }
-
-    private static int firstStepOf(int kind) {
-        return kind == BISHOP ? STRAIGHT : 0;
-    }
-
-    /** The index behind that of the last step. */
-    private static int lastStepOf(int kind) {
-        return kind == ROOK ? STRAIGHT : STEPS.length;
-    }
-
-    private static int reachOf(int kind) {
-        return kind == KING || kind == KNIGHT ? 1 : SPAN;
-    }
-
     /** How far the cells are for a piece on an empty board. */
     private static final class Walk {
         private final Board empty = new Board();
@@ -996,10 +991,6 @@ public final class HexCabinet {
     private static final class Tape {
         private final int[] bytes = new int[TAPE_SIZE];
         private int size = 0;
-
-        private int size() {
-            return size;
-        }
 
         private void append(int number) {
             appendByte(number >>> 24);
@@ -1135,7 +1126,7 @@ public final class HexCabinet {
             tokens = 0;
             int state = LINE;
             int start = tape.behindBlanks(0);
-            for (int k = 0; k < MOST_TOKENS && start < tape.size(); k++) {
+            for (int k = 0; k < MOST_TOKENS && start < tape.size; k++) {
                 int end = tape.behindToken(start);
                 Kind kind = kindOfToken(tape, start, end);
                 state = behind(state, kind);
@@ -1145,7 +1136,7 @@ public final class HexCabinet {
                 keep(start, kind, tape.cellSpelled(start, end));
                 start = tape.behindBlanks(end);
             }
-            return start >= tape.size() && state == LINE ? NOWHERE : start;
+            return start >= tape.size && state == LINE ? NOWHERE : start;
         }
 
         private static Kind kindOfToken(Tape tape, int start, int end) {
@@ -1175,13 +1166,16 @@ public final class HexCabinet {
         }
 
         private static int behindFirst(Kind kind) {
-            switch (kind) {
-                case START: return LINE_END;
-                case PUT: return PUT_SIDE;
-                case TURN: return TURN_SIDE;
-                case GO: return GO_FROM;
-                default: return WRONG;
+            if (kind == Kind.START) {
+                return LINE_END;
             }
+            if (kind == Kind.PUT) {
+                return PUT_SIDE;
+            }
+            if (kind == Kind.TURN) {
+                return TURN_SIDE;
+            }
+            return kind == Kind.GO ? GO_FROM : WRONG;
         }
 
         private static int behindLine(Kind kind) {
@@ -1195,10 +1189,6 @@ public final class HexCabinet {
                 cells[tokens] = cell;
                 tokens++;
             }
-        }
-
-        private int tokens() {
-            return tokens;
         }
 
         private int startOf(int token) {
@@ -1219,39 +1209,24 @@ public final class HexCabinet {
     private static final class Teacher {
         private int errorPosition = NOWHERE;
 
-        private int errorPosition() {
-            return errorPosition;
-        }
-
         /** Returns the first error of keywords and names, 0 for none. */
         private int carryOut(Reader reader, Game game) {
             errorPosition = NOWHERE;
-            int tokens = reader.tokens();
-            for (int i = 0; i < tokens; i++) {
-                int error = carryOutLine(reader, game, i);
-                if (error != 0) {
-                    return error;
+            int error = 0;
+            for (int i = 0; i < reader.tokens && error == 0; i++) {
+                // These four stand at the beginning of a line alone; other tokens are passed over.
+                Kind kind = reader.kindAt(i);
+                if (kind == Kind.START) {
+                    game.setUp();
+                } else if (kind == Kind.PUT) {
+                    error = put(reader, game, i);
+                } else if (kind == Kind.TURN) {
+                    game.giveTurn(reader.kindAt(i + 1).number);
+                } else if (kind == Kind.GO) {
+                    error = go(reader, game, i);
                 }
             }
-            return 0;
-        }
-
-        /** Carries out the line that begins at this token; does nothing at any other token. */
-        private int carryOutLine(Reader reader, Game game, int token) {
-            switch (reader.kindAt(token)) {
-                case START:
-                    game.setUp();
-                    return 0;
-                case PUT:
-                    return put(reader, game, token);
-                case TURN:
-                    game.giveTurn(reader.kindAt(token + 1).number);
-                    return 0;
-                case GO:
-                    return go(reader, game, token);
-                default:
-                    return 0;
-            }
+            return error;
         }
 
         private int put(Reader reader, Game game, int token) {

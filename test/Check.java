@@ -1,0 +1,117 @@
+/** What the tests share: telling a game to an object, and comparing answers. */
+final class Check {
+    interface Call {
+        void run();
+    }
+
+    private static int wrong = 0;
+
+    private Check() {
+    }
+
+    static void due(String call, long got, long want) {
+        if (got != want) {
+            fail(call + " answered " + got + ", due is " + want);
+        }
+    }
+
+    static void dueDouble(String call, double got, double want) {
+        if (!(got == want)) {
+            fail(call + " answered " + got + ", due is " + want);
+        }
+    }
+
+    static void dueTrue(String call, boolean got) {
+        due(call, got ? 1 : 0, 1);
+    }
+
+    static void dueFalse(String call, boolean got) {
+        due(call, got ? 1 : 0, 0);
+    }
+
+    static void thrown(String call, Class<? extends RuntimeException> kind, Call made) {
+        try {
+            made.run();
+            fail(call + " threw nothing, due is " + kind.getSimpleName());
+        } catch (RuntimeException e) {
+            if (e.getClass() != kind) {
+                fail(call + " threw " + e + ", due is " + kind.getSimpleName());
+            }
+        }
+    }
+
+    static void noCell(String call, Call made) {
+        thrown(call, IndexOutOfBoundsException.class, made);
+    }
+
+    static void noArgument(String call, Call made) {
+        thrown(call, IllegalArgumentException.class, made);
+    }
+
+    static void noState(String call, Call made) {
+        thrown(call, IllegalStateException.class, made);
+    }
+
+    static void fail(String text) {
+        wrong++;
+        if (wrong <= 100) {
+            System.out.println(text);
+        }
+    }
+
+    /** Feeds a text, blanks behind it, and trims these off. */
+    static void feed(HexCabinet x, String text) {
+        int before = x.count(10);
+        for (int i = 0; i < text.length(); i += 20) {
+            x.feed(four(text, i), four(text, i + 4), four(text, i + 8), four(text, i + 12), four(text, i + 16));
+        }
+        x.trim(before + text.length());
+    }
+
+    static int four(String text, int from) {
+        int number = 0;
+        for (int i = from; i < from + 4; i++) {
+            number = number << 8 | (i < text.length() ? text.charAt(i) & 255 : ' ');
+        }
+        return number;
+    }
+
+    static int teach(HexCabinet x, String text) {
+        feed(x, text);
+        return x.teach();
+    }
+
+    /** A new object that was told a game without an error. */
+    static HexCabinet told(String text) {
+        HexCabinet x = new HexCabinet();
+        due("teach() of " + text, teach(x, text), 0);
+        return x;
+    }
+
+    static void error(String text, int error, int position) {
+        HexCabinet x = new HexCabinet();
+        due("teach() of " + text, teach(x, text), error);
+        due("errorAt() behind " + text, x.errorAt(), position);
+    }
+
+    /** The cell of a name such as f11. */
+    static int cell(String name) {
+        return new HexCabinet().at(name.charAt(0) - 'a', Integer.parseInt(name.substring(1)));
+    }
+
+    /** The number of the move between two cells. */
+    static int move(String from, String to) {
+        return 91 * cell(from) + cell(to);
+    }
+
+    static int go(HexCabinet x, String from, String to) {
+        return x.move(cell(from), cell(to), 2);
+    }
+
+    static void end() {
+        System.out.println(wrong == 0 ? "all answers are as due" : wrong + " answers are not as due");
+        if (wrong != 0) {
+            System.exit(1);
+        }
+    }
+}
