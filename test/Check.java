@@ -1,3 +1,6 @@
+import java.util.function.Consumer;
+import java.util.function.Supplier;
+
 /** What the tests share: telling a game to an object, and comparing answers. */
 final class Check {
     interface Call {
@@ -50,6 +53,67 @@ final class Check {
 
     static void noState(String call, Call made) {
         thrown(call, IllegalStateException.class, made);
+    }
+
+    static void dueText(String call, String got, String want) {
+        if (!got.equals(want)) {
+            fail(call + " told " + got + ", due is " + want);
+        }
+    }
+
+    /** What can be asked of an object without changing it, in few calls. */
+    static String seen(HexCabinet x) {
+        StringBuilder b = new StringBuilder("counts");
+        for (int what = 0; what <= 10; what++) {
+            b.append(' ').append(x.count(what));
+        }
+        b.append(" errorAt ").append(x.errorAt()).append(" lines ").append(x.lines(1)).append(' ').append(x.lines(2));
+        b.append(" mate ").append(x.mate()).append(" greed ").append(x.greed());
+        b.append(" hanging ").append(x.hanging(0)).append(' ').append(x.hanging(1));
+        return b.append(" mean ").append(x.mean()).append(" digest ").append(x.digest()).toString();
+    }
+
+    /** The two answer alike from here on: what is seen, all moves taken back, and the tape. */
+    static void alike(String behind, HexCabinet got, HexCabinet want) {
+        dueText("what is seen behind " + behind, seen(got), seen(want));
+        int moves = want.count(0);
+        for (int i = 0; i < moves && got.count(0) > 0; i++) {
+            due("back() behind " + behind, got.back(), want.back());
+            due("digest() behind " + behind, got.digest(), want.digest());
+        }
+        due("teach() behind " + behind, got.teach(), want.teach());
+        dueText("what is seen behind teach() behind " + behind, seen(got), seen(want));
+    }
+
+    /** A method that throws an exception changes nothing. */
+    static void refused(String call, Class<? extends RuntimeException> kind, Supplier<HexCabinet> make,
+            Consumer<HexCabinet> made) {
+        HexCabinet x = make.get();
+        thrown(call, kind, () -> made.accept(x));
+        alike(call, x, make.get());
+    }
+
+    /** An object with something of all: moves made, a cell in passing, an error, a game on the tape. */
+    static HexCabinet busy() {
+        HexCabinet x = told("start; go f5 f6; go g10 g9; go g1 g2;");
+        due("teach() of the busy one", teach(x, "start; stop;"), 1);
+        due("a move of the busy one", go(x, "b7", "b5"), 0);
+        feed(x, "put black king f6; turn black;");
+        return x;
+    }
+
+    /** An object that refuses a call as a new one, and as one with something of all. */
+    static void refusedByAll(String call, Class<? extends RuntimeException> kind, Consumer<HexCabinet> made) {
+        refused(call + " by a new one", kind, HexCabinet::new, made);
+        refused(call + " by a busy one", kind, Check::busy, made);
+    }
+
+    static String times(String text, int n) {
+        StringBuilder b = new StringBuilder();
+        for (int i = 0; i < n; i++) {
+            b.append(text);
+        }
+        return b.toString();
     }
 
     static void fail(String text) {

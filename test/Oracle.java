@@ -446,6 +446,18 @@ final class Oracle {
         old.clear();
     }
 
+    /** One that was told a game. */
+    static Oracle told(String text) {
+        Oracle o = new Oracle();
+        for (char c : text.toCharArray()) {
+            o.tape.add((int) c);
+        }
+        if (o.teach() != 0) {
+            Check.fail("the oracle finds an error at " + o.errorAt + " in " + text);
+        }
+        return o;
+    }
+
     int teach() {
         errorAt = -1;
         try {

@@ -633,6 +633,11 @@ public final class HexCabinet {
 
         private int moveCount() {
             listMoves();
+            return openMoves();
+        }
+
+        /** How many of the listed moves are open: none, if it is over by quiet moves. */
+        private int openMoves() {
             return quiet >= MOST_QUIET ? 0 : listedMoves;
         }
 
@@ -641,8 +646,9 @@ public final class HexCabinet {
         }
 
         private int movesFrom(int cell) {
+            listMoves();
             int number = 0;
-            int total = moveCount();
+            int total = openMoves();
             for (int i = 0; i < total; i++) {
                 if (moveAt(i) / CELLS == cell) {
                     number++;
@@ -652,7 +658,8 @@ public final class HexCabinet {
         }
 
         private boolean allows(int from, int to) {
-            int total = moveCount();
+            listMoves();
+            int total = openMoves();
             for (int i = 0; i < total; i++) {
                 if (moveAt(i) == from * CELLS + to) {
                     return true;
