@@ -108,6 +108,16 @@ final class Check {
         refused(call + " by a busy one", kind, Check::busy, made);
     }
 
+    /** Quiet moves of the kings, of white on a1 and of black on k6. */
+    static String quietMoves(int n) {
+        String[] way = {"go a1 a2;", "go k6 k5;", "go a2 a1;", "go k5 k6;"};
+        StringBuilder b = new StringBuilder();
+        for (int i = 0; i < n; i++) {
+            b.append(way[i % 4]);
+        }
+        return b.toString();
+    }
+
     static String times(String text, int n) {
         StringBuilder b = new StringBuilder();
         for (int i = 0; i < n; i++) {

@@ -45,9 +45,13 @@ final class Oracle {
         return -1;
     }
 
+    static String name(int c) {
+        return (char) ('a' + COLUMN[c]) + "" + NUMBER[c];
+    }
+
     static int named(String name) {
         for (int c = 0; c < 91; c++) {
-            if (name.equals((char) ('a' + COLUMN[c]) + "" + NUMBER[c])) {
+            if (name.equals(name(c))) {
                 return c;
             }
         }
@@ -607,7 +611,7 @@ final class Oracle {
         throw new IndexOutOfBoundsException();
     }
 
-    int name(int cell) {
+    int nameOf(int cell) {
         cells(cell);
         return 100 * COLUMN[cell] + NUMBER[cell];
     }

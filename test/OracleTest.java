@@ -36,12 +36,8 @@ public final class OracleTest {
 
     // ---- texts
 
-    private static String name(int cell) {
-        return (char) ('a' + Oracle.COLUMN[cell]) + "" + Oracle.NUMBER[cell];
-    }
-
     private static String put(int side, int piece, int cell) {
-        return "put " + (side == 0 ? "white" : "black") + " " + Oracle.PIECES[piece] + " " + name(cell) + ";";
+        return "put " + (side == 0 ? "white" : "black") + " " + Oracle.PIECES[piece] + " " + Oracle.name(cell) + ";";
     }
 
     /** A position: kings mostly, and up to 14 other pieces of each side. */
@@ -107,7 +103,7 @@ public final class OracleTest {
                 break;
             }
             int m = legal.get(pick(legal.size()));
-            b.append("go ").append(name(m / 91)).append(' ').append(name(m % 91));
+            b.append("go ").append(Oracle.name(m / 91)).append(' ').append(Oracle.name(m % 91));
             int as = 2;
             boolean last = o.now.piece[m / 91] == 6 && Oracle.lastCell(o.now.turn, m % 91);
             if (last && oneIn(2) || oneIn(60)) {
@@ -133,7 +129,7 @@ public final class OracleTest {
         for (int i = 0; i < n && !parts.isEmpty(); i++) {
             int at = pick(parts.size());
             if (parts.get(at).matches("[a-k][0-9]+") && !oneIn(3)) {
-                parts.set(at, oneIn(4) ? bits[pick(10)] : name(pick(91)));
+                parts.set(at, oneIn(4) ? bits[pick(10)] : Oracle.name(pick(91)));
             } else if (oneIn(3)) {
                 parts.add(at, bits[pick(bits.length)]);
             } else if (oneIn(2)) {
@@ -193,7 +189,7 @@ public final class OracleTest {
             case 0: same(run, "count " + w, () -> x.count(w), () -> o.count(w)); break;
             case 1: same(run, "cell " + a + " " + v, () -> x.cell(a, v), () -> o.cell(a, v)); break;
             case 2: same(run, "at " + w + " " + w, () -> x.at(w, v), () -> o.at(w, v)); break;
-            case 3: same(run, "name " + a, () -> x.name(a), () -> o.name(a)); break;
+            case 3: same(run, "name " + a, () -> x.name(a), () -> o.nameOf(a)); break;
             case 4: same(run, "legal " + a + " " + b, () -> x.legal(a, b), () -> o.legal(a, b)); break;
             case 5: same(run, "nth " + a, () -> x.nth(a), () -> o.nth(a)); break;
             case 6: same(run, "lines 1", () -> x.lines(1), () -> o.lines(1)); break;

@@ -308,26 +308,19 @@ public final class Promise04EdgesTest {
         error("put white king c3; put black king a1; go c3 d4;", 0);
     }
 
-    private static String quietMoves(int n) {
-        String[] way = {"go a1 a2;", "go k6 k5;", "go a2 a1;", "go k5 k6;"};
-        StringBuilder b = new StringBuilder("put white king a1;put black king k6;put white pawn f5;");
-        for (int i = 0; i < n; i++) {
-            b.append(way[i % 4]);
-        }
-        return b.toString();
-    }
-
     /** "Quiet moves: moves since a pawn went or something was taken; with 60 it is over." */
     private static void sixtyQuietMoves() {
-        error(quietMoves(59), 0);
-        error(quietMoves(60), 0);
-        error(quietMoves(61), 4);
-        error(quietMoves(60) + "go f5 f6;", 4);
-        error(quietMoves(58) + "go f5 f6; go k5 k6;", 0);
+        String pieces = "put white king a1;put black king k6;put white pawn f5;";
+        String over = pieces + Check.quietMoves(60);
+        error(pieces + Check.quietMoves(59), 0);
+        error(over, 0);
+        error(pieces + Check.quietMoves(61), 4);
+        error(over + "go f5 f6;", 4);
+        error(pieces + Check.quietMoves(58) + "go f5 f6; go k5 k6;", 0);
         // "Behind start, put and turn ... the quiet moves begin with 0."
-        error(quietMoves(60) + "turn white; go a1 a2;", 0);
-        error(quietMoves(60) + "put white pawn b1; go a1 a2;", 0);
-        error(quietMoves(60) + "start; go f5 f6;", 0);
+        error(over + "turn white; go a1 a2;", 0);
+        error(over + "put white pawn b1; go a1 a2;", 0);
+        error(over + "start; go f5 f6;", 0);
     }
 
     /** "A pawn that comes to one of them becomes another piece at once ... (a queen, if nothing is said)"; "Error 5" */

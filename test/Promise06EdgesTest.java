@@ -108,8 +108,7 @@ public final class Promise06EdgesTest {
         Check.due("count(6)", x.count(6), 59);
         how("59 quiet moves again", x, 0, 7, 0, 0);
         // The moves that the tape tells count as well.
-        String told = "put white king a1;put black king k6;"
-                + Check.times("go a1 a2;go k6 k5;go a2 a1;go k5 k6;", 15);
+        String told = "put white king a1;put black king k6;" + Check.quietMoves(60);
         how("60 quiet moves on the tape", Check.told(told), 4, 0, 2, 2);
         how("60 quiet moves and turn", Check.told(told + "turn white;"), 0, 5, 0, 0);
     }

@@ -102,14 +102,14 @@ public final class Promise07EdgesTest {
             for (int piece = 1; piece <= 6; piece++) {
                 for (int cell = 0; cell < 91; cell++) {
                     HexCabinet x = Check.told("put " + (side == 0 ? "white " : "black ") + Oracle.PIECES[piece] + " "
-                            + name(cell) + ";");
+                            + Oracle.name(cell) + ";");
                     Oracle.State s = new Oracle.State();
                     s.set(cell, piece, side);
                     Set<Integer> due = Oracle.attackedFrom(s, cell);
                     for (int to = 0; to < 91; to++) {
-                        Check.due(Oracle.PIECES[piece] + " from " + name(cell) + " on " + name(to),
+                        Check.due(Oracle.PIECES[piece] + " from " + Oracle.name(cell) + " on " + Oracle.name(to),
                                 x.cell(to, 4 + side), due.contains(to) ? 1 : 0);
-                        Check.due("the other side on " + name(to), x.cell(to, 5 - side), 0);
+                        Check.due("the other side on " + Oracle.name(to), x.cell(to, 5 - side), 0);
                     }
                 }
             }
@@ -131,10 +131,6 @@ public final class Promise07EdgesTest {
         attacked("pawn", "k1", 1);
     }
 
-    private static String name(int cell) {
-        return (char) ('a' + Oracle.COLUMN[cell]) + "" + Oracle.NUMBER[cell];
-    }
-
     private static void attacked(String piece, String name, int due) {
         HexCabinet x = Check.told("put white " + piece + " " + name + ";");
         int number = 0;
@@ -152,7 +148,7 @@ public final class Promise07EdgesTest {
                 for (int cell = 0; cell < 91; cell++) {
                     HexCabinet x = new HexCabinet();
                     int error = Check.teach(x, "put white king c3; put black king i8;" + block + "put white "
-                            + Oracle.PIECES[piece] + " " + name(cell) + ";");
+                            + Oracle.PIECES[piece] + " " + Oracle.name(cell) + ";");
                     if (error != 0) {
                         continue;
                     }
@@ -161,7 +157,7 @@ public final class Promise07EdgesTest {
                         o.now.set(other, x.cell(other, 0), x.cell(other, 1));
                     }
                     int due = o.cell(cell, 3);
-                    Check.due("moves of a " + Oracle.PIECES[piece] + " from " + name(cell), x.cell(cell, 3), due);
+                    Check.due("moves of a " + Oracle.PIECES[piece] + " from " + Oracle.name(cell), x.cell(cell, 3), due);
                 }
             }
         }
@@ -174,13 +170,13 @@ public final class Promise07EdgesTest {
             for (int cell = 0; cell < 91; cell++) {
                 // The kings stand in a column far away.
                 String kings = cell < 45 ? "put white king k1; put black king k6;" : "put white king a1; put black king a6;";
-                HexCabinet x = Check.told(kings + "put " + name + " pawn " + name(cell) + "; turn " + name + ";");
+                HexCabinet x = Check.told(kings + "put " + name + " pawn " + Oracle.name(cell) + "; turn " + name + ";");
                 int sign = side == 0 ? 1 : -1;
                 int px = sign * Oracle.X[cell];
                 int py = sign * Oracle.Y[cell];
                 boolean first = px >= -4 && px <= 4 && py == (px > 0 ? -1 - px : -1);
                 boolean last = Oracle.lastCell(side, cell);
-                Check.due("moves of a " + name + " pawn from " + name(cell), x.cell(cell, 3), last ? 0 : first ? 2 : 1);
+                Check.due("moves of a " + name + " pawn from " + Oracle.name(cell), x.cell(cell, 3), last ? 0 : first ? 2 : 1);
             }
         }
     }

@@ -81,6 +81,12 @@ public final class Promise11EdgesTest {
         HexCabinet k = Check.told("put white king b7; put black king k6;");
         due(k, "b7", "c1", false);
         due(k, "b7", "a6", true);
+        // A slanting step leads between two cells: what stands on these is not in its way.
+        HexCabinet b = Check.told(KINGS + "put white bishop f6; put white pawn f7; put black pawn g6;");
+        due(b, "f6", "g7", true);
+        due(b, "f6", "h8", true);
+        due(b, "f6", "f7", false);
+        due(b, "f6", "g6", false);
         // "a king one straight or slanting step"
         HexCabinet m = Check.told("put white king f6; put black king k6;");
         due(m, "f6", "f7", true);
@@ -193,11 +199,11 @@ public final class Promise11EdgesTest {
                         continue;
                     }
                     HexCabinet x = new HexCabinet();
-                    int error = Check.teach(x, kings + "put " + own + " pawn " + name(cell) + "; put " + other + " pawn "
-                            + name(from) + "; turn " + own + ";go " + name(cell) + " " + name(cell + 2 * up) + ";");
+                    int error = Check.teach(x, kings + "put " + own + " pawn " + Oracle.name(cell) + "; put " + other + " pawn "
+                            + Oracle.name(from) + "; turn " + own + ";go " + Oracle.name(cell) + " " + Oracle.name(cell + 2 * up) + ";");
                     boolean takes = dx == -up && dy == 0 || dx == up && dy == -up;
                     if (error == 0) {
-                        Check.due("legal " + name(from) + " " + name(between), x.legal(from, between) ? 1 : 0, takes ? 1 : 0);
+                        Check.due("legal " + Oracle.name(from) + " " + Oracle.name(between), x.legal(from, between) ? 1 : 0, takes ? 1 : 0);
                     } else {
                         // A pawn that stands near a king may attack it: then it cannot be played.
                         Check.dueFalse("an error with a pawn that takes", takes);
@@ -205,10 +211,6 @@ public final class Promise11EdgesTest {
                 }
             }
         }
-    }
-
-    private static String name(int cell) {
-        return (char) ('a' + Oracle.COLUMN[cell]) + "" + Oracle.NUMBER[cell];
     }
 
     /** "behind which its own king is not attacked" */
@@ -246,8 +248,8 @@ public final class Promise11EdgesTest {
     /** The king on f6, the knight of white one step from it, the rook or the bishop of black two. */
     private static String bound(int line) {
         int[] step = line < 6 ? Oracle.STRAIGHT[line] : Oracle.SLANTING[line - 6];
-        return "put white knight " + name(Oracle.cellAt(step[0], step[1])) + ";put black " + (line < 6 ? "rook " : "bishop ")
-                + name(Oracle.cellAt(2 * step[0], 2 * step[1])) + ";";
+        return "put white knight " + Oracle.name(Oracle.cellAt(step[0], step[1])) + ";put black " + (line < 6 ? "rook " : "bishop ")
+                + Oracle.name(Oracle.cellAt(2 * step[0], 2 * step[1])) + ";";
     }
 
     /** The same on each of the twelve lines that there are, one behind the other and all at once. */
@@ -309,7 +311,7 @@ public final class Promise11EdgesTest {
     /** "or is over by quiet moves": with 60, not with 59. */
     private static void overByQuietMoves() {
         HexCabinet x = Check.told(KINGS + "put white pawn f5; put black pawn b5;"
-                + Check.times("go a1 a2;go k6 k5;go a2 a1;go k5 k6;", 14) + "go a1 a2; go k6 k5; go a2 a1;");
+                + Check.quietMoves(59));
         Check.due("count(6)", x.count(6), 59);
         due(x, "k5", "k6", true);
         due(x, "b5", "b4", true);

@@ -57,7 +57,7 @@ public final class Promise12EdgesTest {
     /** "there are none, if it ... is over by quiet moves" */
     private static void overByQuietMoves() {
         HexCabinet x = Check.told("put white king a1; put black king k6; put white pawn f5;"
-                + Check.times("go a1 a2;go k6 k5;go a2 a1;go k5 k6;", 14) + "go a1 a2; go k6 k5; go a2 a1;");
+                + Check.quietMoves(59));
         int moves = x.count(3);
         Check.due("the last one with 59 quiet moves", x.nth(moves - 1), Check.move("k5", "k6"));
         Check.go(x, "k5", "k6");

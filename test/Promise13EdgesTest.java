@@ -107,10 +107,6 @@ public final class Promise13EdgesTest {
         Check.due("f6", w.cell(Check.cell("f6"), 1), 0);
     }
 
-    private static String name(int cell) {
-        return (char) ('a' + Oracle.COLUMN[cell]) + "" + Oracle.NUMBER[cell];
-    }
-
     /** "Last cells of a pawn: those from which its step of one leads off the board." On all cells, of both sides. */
     private static void lastCells() {
         for (int side = 0; side < 2; side++) {
@@ -124,9 +120,9 @@ public final class Promise13EdgesTest {
                 int to = from + up;
                 boolean last = Oracle.lastCell(side, to);
                 for (int as = 2; as <= 5; as++) {
-                    HexCabinet x = Check.told(kings + "put " + own + " pawn " + name(from) + "; turn " + own + ";");
-                    Check.due("move to " + name(to), x.move(from, to, as), 0);
-                    Check.due(own + " pawn come to " + name(to) + " as " + as, x.cell(to, 0), last ? as : 6);
+                    HexCabinet x = Check.told(kings + "put " + own + " pawn " + Oracle.name(from) + "; turn " + own + ";");
+                    Check.due("move to " + Oracle.name(to), x.move(from, to, as), 0);
+                    Check.due(own + " pawn come to " + Oracle.name(to) + " as " + as, x.cell(to, 0), last ? as : 6);
                     Check.due("its side", x.cell(to, 1), side);
                     Check.due("count(1)", x.count(1), 1 - side);
                     Check.due("count(6)", x.count(6), 0);

@@ -136,7 +136,7 @@ public final class Promise14EdgesTest {
     /** "with 60 it is over": one back it is not. */
     private static void quietMoves() {
         String text = KINGS + "put white pawn f5; put black pawn b5;"
-                + Check.times("go a1 a2;go k6 k5;go a2 a1;go k5 k6;", 14) + "go a1 a2; go k6 k5; go a2 a1;";
+                + Check.quietMoves(59);
         thereAndBack(text, "k5", "k6", 2);
         thereAndBack(text, "b5", "b4", 2);
         HexCabinet x = Check.told(text);

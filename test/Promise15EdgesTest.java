@@ -98,16 +98,15 @@ public final class Promise15EdgesTest {
 
     /** The same: by the 60th quiet move it is over, by a pawn's move it is not. */
     private static void quietMoves() {
-        String way = Check.times("go a1 a2;go k6 k5;go a2 a1;go k5 k6;", 14);
-        HexCabinet before = Check.told(KINGS + way + "go a1 a2; go k6 k5;");
+        HexCabinet before = Check.told(KINGS + Check.quietMoves(58));
         Check.due("count(6)", before.count(6), 58);
         Check.dueTrue("lines(2) with 58 quiet moves", before.lines(2) > before.lines(1));
-        HexCabinet kings = Check.told(KINGS + way + "go a1 a2; go k6 k5; go a2 a1;");
+        HexCabinet kings = Check.told(KINGS + Check.quietMoves(59));
         Check.due("count(6)", kings.count(6), 59);
         Check.dueTrue("lines(1) with 59 quiet moves", kings.lines(1) > 0);
         Check.due("lines(2) with 59 quiet moves", kings.lines(2), 0);
         // The pawn on b5 can go one step: behind it white has the moves of its king on a1 and no others.
-        String pawn = KINGS + "put black pawn b5;" + way + "go a1 a2; go k6 k5; go a2 a1;";
+        String pawn = KINGS + "put black pawn b5;" + Check.quietMoves(59);
         HexCabinet x = Check.told(pawn);
         Check.due("count(6)", x.count(6), 59);
         HexCabinet y = Check.told(pawn);

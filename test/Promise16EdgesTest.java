@@ -105,7 +105,7 @@ public final class Promise16EdgesTest {
     /** Over by quiet moves there is no legal move, and so none that mates. */
     private static void overByQuietMoves() {
         String text = "put white king a1; put white rook a3; put white queen g4; put black king k6;"
-                + Check.times("go a1 a2;go k6 k5;go a2 a1;go k5 k6;", 14);
+                + Check.quietMoves(56);
         HexCabinet x = Check.told(text);
         Check.due("count(6)", x.count(6), 56);
         int mate = x.mate();

@@ -37,7 +37,7 @@ public final class Promise17EdgesTest {
     /** The same over by quiet moves: with 60, not with 59. */
     private static void overByQuietMoves() {
         String text = "put white king a1; put black king k6; put white rook f1; put black pawn f4;"
-                + Check.times("go a1 a2;go k6 k5;go a2 a1;go k5 k6;", 14) + "go a1 a2; go k6 k5; go a2 a1;";
+                + Check.quietMoves(59);
         HexCabinet x = Check.told(text);
         Check.due("count(6)", x.count(6), 59);
         Check.dueTrue("greed() with 59 quiet moves", x.greed() >= 0);

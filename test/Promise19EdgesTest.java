@@ -72,7 +72,7 @@ public final class Promise19EdgesTest {
     /** "there are none, if it ... is over by quiet moves" */
     private static void quietMoves() {
         HexCabinet x = Check.told("put white king a1; put black king k6;"
-                + Check.times("go a1 a2;go k6 k5;go a2 a1;go k5 k6;", 14) + "go a1 a2; go k6 k5; go a2 a1;");
+                + Check.quietMoves(59));
         Check.dueTrue("mean() with 59 quiet moves", x.mean() > 0.0);
         Check.go(x, "k5", "k6");
         Check.dueDouble("mean() with 60", x.mean(), 0.0);

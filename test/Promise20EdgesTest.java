@@ -69,9 +69,8 @@ public final class Promise20EdgesTest {
         // Mate and stalemate, and over by quiet moves: no moves behind the cells.
         digest("put white king c3; put white queen b2; put black king a1; turn black;");
         digest("put white king c3; put black king a1; turn black;");
-        String way = Check.times("go a1 a2;go k6 k5;go a2 a1;go k5 k6;", 14);
-        digest("put white king a1; put black king k6;" + way + "go a1 a2; go k6 k5; go a2 a1;");
-        digest("put white king a1; put black king k6;" + way + "go a1 a2; go k6 k5; go a2 a1; go k5 k6;");
+        digest("put white king a1; put black king k6;" + Check.quietMoves(59));
+        digest("put white king a1; put black king k6;" + Check.quietMoves(60));
     }
 
     private static void differs(String call, HexCabinet one, HexCabinet other) {
