@@ -245,36 +245,55 @@ public final class Promise11EdgesTest {
         Check.due("moves of the rook", both.cell(Check.cell("a3"), 3), 0);
     }
 
-    /** The king on f6, the knight of white one step from it, the rook or the bishop of black two. */
-    private static String bound(int line) {
-        int[] step = line < 6 ? Oracle.STRAIGHT[line] : Oracle.SLANTING[line - 6];
-        return "put white knight " + Oracle.name(Oracle.cellAt(step[0], step[1])) + ";put black " + (line < 6 ? "rook " : "bishop ")
-                + Oracle.name(Oracle.cellAt(2 * step[0], 2 * step[1])) + ";";
+    private static int[] step(int line) {
+        return line < 6 ? Oracle.STRAIGHT[line] : Oracle.SLANTING[line - 6];
     }
 
-    /** The same on each of the twelve lines that there are, one behind the other and all at once. */
+    /** A knight one step from the king, and two steps from it the rook or the bishop that binds it. */
+    private static String bound(int king, int line, String own, String other) {
+        int x = Oracle.X[king];
+        int y = Oracle.Y[king];
+        int[] step = step(line);
+        return "put " + own + " knight " + Oracle.name(Oracle.cellAt(x + step[0], y + step[1])) + ";put " + other
+                + (line < 6 ? " rook " : " bishop ") + Oracle.name(Oracle.cellAt(x + 2 * step[0], y + 2 * step[1])) + ";";
+    }
+
+    private static void knightIsBound(HexCabinet x, int king, int line) {
+        int knight = Oracle.cellAt(Oracle.X[king] + step(line)[0], Oracle.Y[king] + step(line)[1]);
+        Check.due("moves of a knight on line " + line + " of " + Oracle.name(king), x.cell(knight, 3), 0);
+        Check.dueTrue("it can be played", x.count(2) != 5);
+    }
+
+    /** The same by both sides, on each of the twelve lines that there are, one behind the other and all at once. */
     private static void boundOnAllLines() {
-        String kings = "put white king f6;put black king k1;";
-        StringBuilder all = new StringBuilder(kings);
-        for (int line = 0; line < 12; line++) {
-            HexCabinet x = Check.told(kings + bound(line));
-            HexCabinet free = Check.told(kings + bound(line) + "turn black;");
-            int[] step = line < 6 ? Oracle.STRAIGHT[line] : Oracle.SLANTING[line - 6];
-            int knight = Oracle.cellAt(step[0], step[1]);
-            Check.due("moves of a knight on line " + line, x.cell(knight, 3), 0);
-            Check.dueTrue("moves of black on line " + line, free.count(3) > 0);
-            all.append(bound(line));
+        String[] sides = {"white", "black"};
+        int middle = Check.cell("f6");
+        for (String own : sides) {
+            String other = own.equals("white") ? "black" : "white";
+            String turn = "turn " + own + ";";
+            String kings = "put " + own + " king f6;put " + other + " king k1;";
+            StringBuilder all = new StringBuilder(kings);
+            for (int line = 0; line < 12; line++) {
+                knightIsBound(Check.told(kings + bound(middle, line, own, other) + turn), middle, line);
+                all.append(bound(middle, line, own, other));
+            }
+            HexCabinet x = Check.told(all + turn);
+            Check.due("all twelve at once", x.count(3), 0);
+            Check.due("count(2) of it", x.count(2), 3);
+            boundOnOneObject(own, other);
         }
-        HexCabinet x = Check.told(all.toString());
-        Check.due("all twelve at once", x.count(3), 0);
-        Check.due("count(2) of it", x.count(2), 3);
-        // On one object, one behind the other and more than once: none is remembered too long, none is overlooked.
-        HexCabinet y = new HexCabinet();
+    }
+
+    /** On one object, one behind the other: none is remembered too long, none is overlooked. */
+    private static void boundOnOneObject(String own, String other) {
+        String[] names = {"f6", "f7", "f5", "e5"};
+        HexCabinet x = new HexCabinet();
         for (int i = 0; i < 40; i++) {
             int line = i * 7 % 12;
-            Check.due("teach()", Check.teach(y, kings + bound(line)), 0);
-            int[] step = line < 6 ? Oracle.STRAIGHT[line] : Oracle.SLANTING[line - 6];
-            Check.due("moves of a knight on line " + line, y.cell(Oracle.cellAt(step[0], step[1]), 3), 0);
+            int king = Check.cell(names[i / 12]);
+            Check.due("teach()", Check.teach(x, "put " + own + " king " + names[i / 12] + ";put " + other + " king k1;"
+                    + bound(king, line, own, other) + "turn " + own + ";"), 0);
+            knightIsBound(x, king, line);
         }
     }
 
