@@ -49,10 +49,13 @@ public final class FaceTest {
         }
         for (Class<?> inside : HexCabinet.class.getDeclaredClasses()) {
             for (Method m : inside.getDeclaredMethods()) {
-                privates.add(m.getName());
+                if (Modifier.isPrivate(m.getModifiers())) {
+                    privates.add(m.getName());
+                }
             }
-            Check.dueTrue(inside + " static", Modifier.isStatic(inside.getModifiers()));
-            Check.dueTrue(inside + " private", Modifier.isPrivate(inside.getModifiers()));
+            int seen = inside.getModifiers();
+            Check.dueTrue(inside + " static", Modifier.isStatic(seen));
+            Check.dueFalse(inside + " public or protected", Modifier.isPublic(seen) || Modifier.isProtected(seen));
         }
         for (String name : privates) {
             Check.dueFalse("a private method with the public name " + name, publics.contains(name));

@@ -116,7 +116,7 @@ public final class HexCabinet {
         if (error == 0) {
             draft.clear();
             error = teacher.carryOut(reader, draft);
-            position = error == 0 ? NOWHERE : teacher.errorPosition;
+            position = teacher.errorPosition;
         }
         if (error == 0) {
             Game old = game;
@@ -361,7 +361,7 @@ public final class HexCabinet {
         return place % SPAN - MIDDLE;
     }
 
-    /** The black first cells are the white ones with both signs turned. */
+    /** The black first cells are the white ones with both signs turned. Calls no other method: it stands eight deep. */
     private static boolean isFirstPlace(int place, int side) {
         int sign = side == WHITE ? 1 : -1;
         int x = (place / SPAN - MIDDLE) * sign;
@@ -683,7 +683,7 @@ public final class HexCabinet {
                 gatherTargets(from);
                 sortTargets();
                 for (int i = 0; i < targetCount && i < targets.length; i++) {
-                    if (isSafe(from, targets[i]) && listedMoves < moves.length) {
+                    if (isSafe(from, targets[i]) && listedMoves >= 0 && listedMoves < moves.length) {
                         moves[listedMoves] = cell * CELLS + cellOf(targets[i]);
                         listedMoves++;
                     }
@@ -784,7 +784,7 @@ public final class HexCabinet {
                 int shield = board.firstTaken(king, STEPS[i]);
                 int behind = board.on(board.firstTaken(shield, STEPS[i]));
                 if (sideOf(board.on(shield)) == turn && sideOf(behind) == 1 - turn
-                        && goesBy(kindOf(behind), i, false) && pinnedCount < pinned.length) {
+                        && goesBy(kindOf(behind), i, false) && pinnedCount >= 0 && pinnedCount < pinned.length) {
                     pinned[pinnedCount] = shield;
                     pinnedCount++;
                 }
@@ -972,7 +972,7 @@ public final class HexCabinet {
 
         private void reach(int place, int distance) {
             if (place >= 0 && place < distances.length && distances[place] == NOWHERE
-                    && reachedCount < reached.length) {
+                    && reachedCount >= 0 && reachedCount < reached.length) {
                 distances[place] = distance;
                 reached[reachedCount] = place;
                 reachedCount++;
@@ -1190,7 +1190,7 @@ public final class HexCabinet {
         }
 
         private void keep(int start, Kind kind, int cell) {
-            if (tokens >= 0 && tokens < MOST_TOKENS) {
+            if (tokens >= 0 && tokens < starts.length && tokens < kinds.length && tokens < cells.length) {
                 starts[tokens] = start;
                 kinds[tokens] = kind;
                 cells[tokens] = cell;
